@@ -324,11 +324,13 @@ public final class BellMilk {
         if (!isUpTo(v, 9999) || !isUpTo(n, 40)) {
             return tell(BEYOND);
         }
-        // Bells hear THUNDER by its tens; inside of ten it can only spoil milk,
-        // so where the least of ten leaves too little, all ten do.
-        for (int ten = MOST_THUNDER / 10 * 10; ten >= 0; ten -= 10) {
-            if (milkUnder(ten, n) >= v) {
-                return greatestOfTen(ten, v, n);
+        for (int t = MOST_THUNDER; t >= 0; t--) {
+            // Bells ring by the tens of THUNDER, and the ones only turn milk:
+            // where the least with the same tens leaves too little, all of them do.
+            if (t % 10 == 9 && milkUnder(t - 9, n) < v) {
+                t -= 9;
+            } else if (milkUnder(t, n) >= v) {
+                return t;
             }
         }
         return tell(NONE);
@@ -747,15 +749,6 @@ public final class BellMilk {
         return trial.milk();
     }
 
-    private int greatestOfTen(int ten, int v, int n) {
-        for (int thunder = ten + 9; thunder > ten; thunder--) {
-            if (milkUnder(thunder, n) >= v) {
-                return thunder;
-            }
-        }
-        return ten;
-    }
-
     private int gainedWithout(int cow, int tone, int n) {
         beginTrial();
         // From 0 on no PAIL comes to be full in so few HOURS, so nothing is lost.
@@ -895,9 +888,9 @@ public final class BellMilk {
                 case ALTO:
                     return plain + 2;
                 case BRIDE:
-                    return brideRings(c, plain);
+                    return Math.max(0, plain + 2 - othersWith(c));
                 case PASS:
-                    return brideRings(c, plain) + thunder / 10;
+                    return Math.max(0, plain + 2 - othersWith(c)) + thunder / 10;
                 case CRACKED:
                     return Math.max(0, plain - wear[c] / 100);
                 default:
@@ -905,9 +898,14 @@ public final class BellMilk {
             }
         }
 
-        private int brideRings(int c, int plain) {
-            int others = Integer.bitCount(cowsOn(place[c])) - 1;
-            return Math.max(0, plain + 2 - others);
+        private int othersWith(int c) {
+            int others = -1;
+            for (int o = 0; o < cows; o++) {
+                if (place[o] == place[c]) {
+                    others++;
+                }
+            }
+            return others;
         }
 
         int eats(int c) {
@@ -1143,30 +1141,22 @@ public final class BellMilk {
                 begin++;
             }
             end = begin;
+            value = 0;
             if (begin >= length) {
                 token = END;
             } else if (isLetter(bytes[begin])) {
                 token = WORD;
-                passLetters();
+                while (end < length && isLetter(bytes[end])) {
+                    end++;
+                }
             } else if (isDigit(bytes[begin])) {
                 token = NUMBER;
-                passDigits();
+                while (end < length && isDigit(bytes[end])) {
+                    value = Math.min(TOO_GREAT, value * 10 + bytes[end] - '0');
+                    end++;
+                }
             } else {
                 token = bytes[begin] == ';' ? SIGN : STRANGE;
-                end++;
-            }
-        }
-
-        private void passLetters() {
-            while (end < length && isLetter(bytes[end])) {
-                end++;
-            }
-        }
-
-        private void passDigits() {
-            value = 0;
-            while (end < length && isDigit(bytes[end])) {
-                value = Math.min(TOO_GREAT, value * 10 + bytes[end] - '0');
                 end++;
             }
         }
