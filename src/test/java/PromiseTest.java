@@ -339,7 +339,8 @@ public final class PromiseTest {
         due("storms(20)", x.storms(20), 0);
         due("storms(20)", x.storms(20), STATE);
         due("storms(21)", x.storms(21), BEYOND);
-        due("go(19)", x.go(19), 0);
+        due("go(18)", x.go(18), 0);
+        due("storms(1)", x.storms(1), 0);
         due("now(0)", x.now(0), 99999);
         due("go(1)", x.go(1), STATE);
         due("storms(1)", x.storms(1), STATE);
@@ -426,7 +427,9 @@ public final class PromiseTest {
         due("when(12, 1)", x.when(12, 1), BEYOND);
         due("when(-1, 1)", x.when(-1, 1), BEYOND);
         // From HOUR 4 on the last MILKING is behind 200 HOURS just.
-        x.go(4);
+        x.go(3);
+        due("when(2, 170)", x.when(2, 170), NONE);
+        x.go(1);
         due("when(2, 170)", x.when(2, 170), 200);
         due("when(2, 171)", x.when(2, 171), NONE);
         x.go(2);
@@ -452,8 +455,12 @@ public final class PromiseTest {
         x = herd("cow on 1;pass on 11;grows 0");
         for (int p = 0; p < 12; p++) x.grass(p, 99);
         due("meet(0, 1)", x.meet(0, 1), 200);
+        // One HOUR more on a PASTURE of 4 is one too many.
         x.change(1, 1, 0);
+        x.grass(11, 4);
         due("meet(0, 1)", x.meet(0, 1), NONE);
+        x.grass(10, 94);
+        due("meet(0, 1)", x.meet(0, 1), 200);
     }
 
     static void p16() {
@@ -623,6 +630,7 @@ public final class PromiseTest {
         due("pair(12)", x.pair(12), BEYOND);
         due("pair(-1)", x.pair(-1), BEYOND);
         due("pair(0)", herd("cow").pair(0), NONE);
+        due("pair(5)", herd("cow tone 5").pair(5), NONE);
     }
 
     static void p24() {
@@ -884,6 +892,13 @@ public final class PromiseTest {
         fault(";cow", 0);
         fault("cow cow", 4);
         fault("cows", 0);
+        fault("cowz", 0);
+        fault("dow", 0);
+        fault("cox", 0);
+        fault("{cow", 0);
+        fault("`cow", 0);
+        fault("/3", 0);
+        fault("cow on :", 7);
         fault("Cow", 0);
         fault("cow on", 6);
         fault("cow on  ", 8);
