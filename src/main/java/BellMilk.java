@@ -324,13 +324,15 @@ public final class BellMilk {
         if (!isUpTo(v, 9999) || !isUpTo(n, 40)) {
             return tell(BEYOND);
         }
-        for (int t = MOST_THUNDER; t >= 0; t--) {
+        for (int tens = MOST_THUNDER / 10 * 10; tens >= 0; tens -= 10) {
             // Bells ring by the tens of THUNDER, and the ones only turn milk:
             // where the least with the same tens leaves too little, all of them do.
-            if (t % 10 == 9 && milkUnder(t - 9, n) < v) {
-                t -= 9;
-            } else if (milkUnder(t, n) >= v) {
-                return t;
+            if (milkUnder(tens, n) >= v) {
+                int ones = 9;
+                while (ones > 0 && milkUnder(tens + ones, n) < v) {
+                    ones--;
+                }
+                return tens + ones;
             }
         }
         return tell(NONE);
