@@ -588,6 +588,8 @@ public final class EdgeTest {
         run("cow tone 5 muffled;cow tone 5 muffled", "change 0 5 24", "go 6 = 6", "pail 5 = 6");
         // A third of what THUNDER has left: 6 less 3 is 3.
         run(pair + ";thunder 50", "change 0 5 24", "go 6 = 3", "pail 5 = 2", "pail 0 = 1");
+        // Of 11 three are turned; a third of 8 is 2, where a third of 11 were 3.
+        run(pair + ";thunder 30", "change 0 5 44", "go 6 = 8", "pail 5 = 6", "pail 0 = 2");
     }
 
     @Edge(of = 0, says = "(what a PAIL can't hold is lost); its RUNG is 0.")
