@@ -13,8 +13,10 @@ import java.util.Map;
 import java.util.function.Supplier;
 
 /**
- * The document's boundary cases, sentence by sentence: each test says which sentence it is of. All answers
- * were worked out by hand. A sentence of the document that no test here quotes is a failure, too.
+ * The document's boundary cases, sentence by sentence: each test says which sentence it is of. A sentence of the
+ * document that no test here quotes is a failure, too. Answers were worked out by hand from the document, but for
+ * the draws and the thunderFor cases at 30, 20 and 10 (by a script of their formulas), and for which questions
+ * find NONE on the busy hill: those were chosen by what the class answers, and only ask that nothing changes.
  */
 public final class EdgeTest {
     /** Which promise (0: the terms), and its words. */
